@@ -54,6 +54,17 @@ final class ForecastTest {
         Due.dueAll("forecast", forecasts(room), 690, 115, 0, 1, 1);
     }
 
+    static void promise19EachForecastTellsItsOwn() {
+        ReelChanger room = Due.withProgram("00", 300);
+        room.splice(0, 30, 1);
+        room.splice(0, 40, 1);
+        room.splice(0, 250, 1);
+        room.set(1, 70);
+        room.begin();
+        // The start behind the third repair, at frame 254, is late; the change waits for it 14 ticks.
+        Due.dueAll("forecast", forecasts(room), 280 + 300 + 3 * 101 - 3 * 5 + 14, 3 * 101 + 14, 0, 1, 3);
+    }
+
     static void promise19ForecastChangesNothing() {
         ReelChanger room = Due.withProgram("00", 100);
         room.splice(0, 30, 1);

@@ -42,6 +42,26 @@ final class ShowTest {
         Due.due("no row", room.tell(8), 0);
     }
 
+    static void promise14BeginCountsAnew() {
+        ReelChanger room = Due.withProgram("0000", 100);
+        room.set(1, 70);
+        room.set(5, 200);
+        room.begin();
+        Due.passTo(room, 352);
+        Due.dueAll("told", Due.told(room), 1, 352, 0, 201, 10, 1, 0, 3, 0, 192);
+        Due.due("place", room.projector(0, 1), 2);
+        room.begin();
+        Due.dueAll("told", Due.told(room), 1, 0, 0, 0, 0, 0, 0, 2, 0, 0);
+        Due.dueAll("projector 0", Due.onProjector(room, 0), SHOWING, 0, 0);
+        room.set(0, 90);
+        Due.passTo(room, 85);
+        Due.due("run out", room.projector(0, 0), RUN_OUT);
+        room.begin();
+        room.pass(1);
+        Due.dueAll("not run out any more", Due.onProjector(room, 1), READY, 1, Due.NONE);
+        Due.due("not late", room.tell(5), 0);
+    }
+
     static void promise15PassHasBounds() {
         ReelChanger room = Due.withProgram("0", 3000);
         for (int ticks : new int[] {Integer.MIN_VALUE, -1, 0, 2001, Integer.MAX_VALUE}) {
@@ -81,6 +101,7 @@ final class ShowTest {
         Due.passTo(room, 330);
         Due.due("not yet cleared", room.projector(0, 0), RUN_OUT);
         Due.due("a tick is left", room.tell(9), 1);
+        Due.due("it is worked on", room.task(0, 0), ReelChanger.CLEAR);
         Due.passTo(room, 331);
         Due.dueAll("cleared", Due.onProjector(room, 0), EMPTY, Due.NONE, Due.NONE);
         Due.dueAll("not yet taken up", Due.told(room), 1, 331, 1, 0, 0, 0, 0, 2, 1, 0);

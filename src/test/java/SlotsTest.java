@@ -76,6 +76,20 @@ final class SlotsTest {
         Due.due("text", room.clearText(), 6);
     }
 
+    static void promise22AReelMadeAnewHasNoSplices() {
+        ReelChanger room = new ReelChanger();
+        room.save(0);
+        room.makeReel(100);
+        room.splice(0, 10, 1);
+        room.save(1);
+        room.restore(0);
+        Due.due("makeReel", room.makeReel(200), 0);
+        Due.due("length", room.reel(0, 0), 200);
+        Due.due("splices", room.reel(0, 1), 0);
+        room.restore(1);
+        Due.dueAll("splices", Due.splices(room, 0), 10, 1);
+    }
+
     static void promise22AShowThatIsOverAndOneThatIsNone() {
         ReelChanger room = Due.withProgram("00", 100);
         room.save(1);
