@@ -35,6 +35,11 @@ final class RandomRunsTest {
             int length = shortest + random.nextInt(longest - shortest + 1);
             same("makeReel(" + length + ")", room.makeReel(length), model.makeReel(length));
         }
+        for (int i = 0; i < 8 && room.program(0) < 0; i++) {
+            write();
+            same("setProgram()", room.setProgram(), model.setProgram());
+        }
+        same("begin()", room.begin(), model.begin());
         for (int i = 0; i < steps; i++) {
             step(random.nextInt(100));
             compare();
