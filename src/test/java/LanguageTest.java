@@ -90,6 +90,43 @@ final class LanguageTest {
         Due.due("some twelve classes", classes.size() <= 12 ? 1 : 0, 1);
     }
 
+    /** Any arguments, in a new room, in a show, in one that has broken, and behind its end. */
+    static void rule07NoCallThrows() throws ReflectiveOperationException {
+        int[] values = {Integer.MIN_VALUE, Integer.MIN_VALUE + 1, Due.NONE, -1, 0, 1, 2, 6, 8, 9, 10, 12, 50, 60, 99, 100,
+            127, 2000, 3000, Integer.MAX_VALUE - 1, Integer.MAX_VALUE};
+        for (Method method : ReelChanger.class.getMethods()) {
+            if (method.getDeclaringClass() == ReelChanger.class) {
+                for (ReelChanger room : rooms()) {
+                    callAll(room, method, new Object[method.getParameterCount()], 0, values);
+                    room.checksum();
+                }
+            }
+        }
+    }
+
+    private static List<ReelChanger> rooms() {
+        ReelChanger broken = Due.withProgram("010", 100, 120);
+        broken.splice(1, 3, 1);
+        broken.begin();
+        Due.passTo(broken, 83);
+        ReelChanger over = Due.showing("01", 100, 120);
+        over.pass(2000);
+        return List.of(new ReelChanger(), Due.showing("(01)x6", 100, 120), broken, over);
+    }
+
+    private static void callAll(ReelChanger room, Method method, Object[] arguments, int at, int[] values)
+            throws ReflectiveOperationException {
+        if (at == arguments.length) {
+            method.invoke(room, arguments);
+            return;
+        }
+        for (int value : values) {
+            boolean isFlag = method.getParameterTypes()[at] == boolean.class;
+            arguments[at] = isFlag ? (Object) (value % 2 == 0) : (Object) value;
+            callAll(room, method, arguments, at + 1, values);
+        }
+    }
+
     /** The program without its comments and signs in quotes. */
     private static String code() throws IOException {
         String text = Files.readString(Path.of("src/main/java/ReelChanger.java"));
