@@ -8,7 +8,7 @@ public final class AllTests {
     private static final Class<?>[] TESTS = {
         ReelsTest.class, TextTest.class, ShowTest.class, BreakTest.class, ForecastTest.class, SlotsTest.class,
         ReelBoundsTest.class, TextBoundsTest.class, ShowBoundsTest.class, TickBoundsTest.class, ForecastBoundsTest.class,
-        RefusalTest.class, LanguageTest.class, RandomRunsTest.class,
+        RefusalTest.class, ReadmeTest.class, LanguageTest.class, RandomRunsTest.class,
     };
 
     public static void main(String[] arguments) throws IllegalAccessException {
